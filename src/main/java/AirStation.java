@@ -301,7 +301,7 @@ public final class AirStation {
     }
 
     public int carryOut() {
-        int error = program.readOrders();
+        int error = program.readOrdersOrError();
         if (error != NONE) {
             return SYNTAX_ERROR - error;
         }
@@ -358,8 +358,8 @@ public final class AirStation {
     // The ranks go up as the orders do, so that only a better order may take the place of an earlier one.
     private int rankOfBestOrder(int minutes) {
         int best = 0;
-        long leastUnmet = Long.MAX_VALUE;
-        long leastEnergy = Long.MAX_VALUE;
+        long leastUnmet = 0;
+        long leastEnergy = 0;
         int ranks = ordersOf(state.count);
         for (int rank = 0; rank < ranks; rank++) {
             trial.takeOver(state);
@@ -367,7 +367,7 @@ public final class AirStation {
             trial.runMinutes(minutes);
             long unmet = trial.amounts[UNMET];
             long energy = trial.amounts[ENERGY];
-            if (unmet < leastUnmet || unmet == leastUnmet && energy < leastEnergy) {
+            if (rank == 0 || unmet < leastUnmet || unmet == leastUnmet && energy < leastEnergy) {
                 best = rank;
                 leastUnmet = unmet;
                 leastEnergy = energy;
@@ -392,7 +392,6 @@ public final class AirStation {
         return orders;
     }
 
-    /** One compressor and what has been counted about it. */
     private static final class Compressor {
         int capacity;
         int mode;
@@ -450,31 +449,30 @@ public final class AirStation {
             rest = 0;
         }
 
-        /** Does what was found for step 2; tells whether it became loaded by that. */
-        boolean carriesOn(int doing, int restAfterStop) {
+        void carryOn(int doing, int restAfterStop) {
             switch (doing) {
                 case RESTS_ON:
                     rest--;
-                    return false;
+                    break;
                 case LOADS:
                     load();
-                    return true;
+                    break;
                 case UNLOADS:
                     unload();
-                    return false;
+                    break;
                 case STAYS_UNLOADED:
                     timer++;
-                    return false;
+                    break;
                 case STOPS:
                     stop(restAfterStop);
-                    return false;
+                    break;
                 default:
-                    return false;
+                    break;
             }
         }
     }
 
-    /** All that a saved state contains: everything but the text. */
+    // The text stands outside, for a saved state does not contain it.
     private static final class State {
         int volume = 1000;
         int air = 6000;
@@ -515,7 +513,7 @@ public final class AirStation {
             }
         }
 
-        /** The compressor of this number, or null if there is none. */
+        // Null stands for none, so that one test serves for the number and for the reference.
         Compressor numbered(int number) {
             if (number < 0 || number >= count || number >= compressors.length) {
                 return null;
@@ -636,7 +634,7 @@ public final class AirStation {
             return NONE;
         }
 
-        /** A rotation; tells how many compressors have another stage then. */
+        // Each stage comes of the loaded minutes alone, so that the old stages can be written over one by one.
         int reorder() {
             int moved = 0;
             for (int number = 0; number < MOST_COMPRESSORS; number++) {
@@ -666,7 +664,7 @@ public final class AirStation {
             return ahead;
         }
 
-        /** Sets the order of a rank, 0 for the first one of all orders and so on. */
+        // The rank is taken apart stage by stage: so many orders of the later stages are alike in this one.
         void orderByRank(int rank) {
             for (int number = 0; number < MOST_COMPRESSORS; number++) {
                 Compressor one = numbered(number);
@@ -706,7 +704,7 @@ public final class AirStation {
             }
         }
 
-        /** Lets a minute pass; tells whether a compressor became loaded in it. */
+        // It answers whether a compressor became loaded, because minutesToLoad() looks for that minute.
         boolean runMinute() {
             if (sinceRotation >= settings[ROTATION_TIME]) {
                 reorder();
@@ -752,14 +750,16 @@ public final class AirStation {
             boolean loaded = false;
             for (int number = 0; number < MOST_COMPRESSORS; number++) {
                 Compressor one = numbered(number);
-                if (one != null && one.carriesOn(doingOf(one, pressure), settings[REST])) {
-                    loaded = true;
+                if (one != null) {
+                    int doing = doingOf(one, pressure);
+                    one.carryOn(doing, settings[REST]);
+                    loaded = loaded || doing == LOADS;
                 }
             }
             return loaded;
         }
 
-        /** What a compressor does in step 2 at this pressure, as next() numbers it. */
+        // It changes nothing, so that next() can ask for what the minutes carry out.
         int doingOf(Compressor one, int pressure) {
             switch (one.mode) {
                 case OFF:
@@ -779,7 +779,7 @@ public final class AirStation {
             }
         }
 
-        /** Steps 3 to 5 of a minute and its end; tells what the leak took. */
+        // It answers what the leak took, because a leak test adds that up.
         private int runFlows(int pressureBefore, int demand) {
             runCompressors();
             int leaked = Math.min(leakAt(pressureBefore), air);
@@ -820,7 +820,6 @@ public final class AirStation {
 
         // ---- orders of a text
 
-        /** Carries out an order of a text if it is possible, and tells whether it was. */
         boolean obeys(int kind, int number) {
             switch (kind) {
                 case 'd':
@@ -859,7 +858,7 @@ public final class AirStation {
         }
     }
 
-    /** The latest saved states, in rows that are made once and used round and round. */
+    // The rows are made once and used round and round, so that no call makes a state.
     private static final class History {
         int kept;
         private int newest;
@@ -894,7 +893,6 @@ public final class AirStation {
         }
     }
 
-    /** The text, and the orders that were read from it last. */
     private static final class Program {
         int length;
         int orders;
@@ -920,8 +918,8 @@ public final class AirStation {
             return order >= 0 && order < numbers.length ? numbers[order] : NONE;
         }
 
-        /** Reads the whole text; answers the syntax error position, or NONE. */
-        int readOrders() {
+        // All is read before anything is carried out, because with a syntax error nothing may change.
+        int readOrdersOrError() {
             orders = 0;
             position = 0;
             error = NONE;
@@ -990,7 +988,7 @@ public final class AirStation {
             position++;
         }
 
-        /** The byte at a place, or NONE behind the end, which is no digit and no sign of an order. */
+        // NONE stands behind the end: it can stand nowhere in an order, so that the end needs no test of its own.
         private int byteAt(int place) {
             return place >= 0 && place < length && place < bytes.length ? bytes[place] : NONE;
         }

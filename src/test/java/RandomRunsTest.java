@@ -28,10 +28,20 @@ public final class RandomRunsTest {
     }
 
     private void run(int run) {
+        if (run % 60 == 0) {
+            growOld();
+        }
         for (int call = 0; call < CALLS / 2; call++) {
             String told = "run " + run + " call " + call + ": ";
             compareOne(told);
             Checks.due(told + "digest()", station.digest(), plain.digest());
+        }
+    }
+
+    /** So that the latest time comes near. */
+    private void growOld() {
+        for (int turn = 0; turn < 166; turn++) {
+            compare("growing old", () -> station.pass(600), () -> plain.pass(600));
         }
     }
 

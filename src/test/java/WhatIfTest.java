@@ -11,6 +11,7 @@ public final class WhatIfTest {
         promise20EnergyWithIsOfTheMinutesAlone();
         promise21BestOrderByUnmet();
         promise21BestOrderByEnergy();
+        promise21BestOrderOfFive();
         promise21BestOrderOfLikeOnes();
         promise21BestOrderRotates();
         promise21BestOrderThrows();
@@ -198,6 +199,30 @@ public final class WhatIfTest {
         Checks.due("bestOrder(1, 0)", station.bestOrder(1, 0), 1);
         Checks.due("bestOrder(1, 1)", station.bestOrder(1, 1), 2);
         Checks.due("the present order stays", station.atStage(0), 0);
+    }
+
+    private static void promise21BestOrderOfFive() {
+        AirStation station = still();
+        int[] capacities = {200, 100, 400, 300, 500};
+        for (int capacity : capacities) {
+            station.addCompressor(capacity);
+        }
+        // limits for loading 6300, 6100, 5900, 5700, 5500: those of the stages 0 and 1 load, the smallest ones
+        dueBestOrder("the least energy in one minute", station, 1, 0, 1, 2, 3, 4);
+        station.set(6, 3000);
+        station.set(0, 6150);
+        // 5882 is below 5950 alone: only the one of stage 0 loads in the first minute, all do from then on;
+        // the fourth minute is the first one in which not all of the demand is met
+        station.setVolume(1020);
+        dueBestOrder("the least energy in three minutes", station, 3, 1, 0, 2, 3, 4);
+        dueBestOrder("the most air in four minutes", station, 4, 4, 0, 1, 2, 3);
+    }
+
+    private static void dueBestOrder(String told, AirStation station, int minutes, int... want) {
+        for (int stage = 0; stage < want.length; stage++) {
+            Checks.due(told + ": bestOrder(" + minutes + ", " + stage + ")", station.bestOrder(minutes, stage),
+                    want[stage]);
+        }
     }
 
     private static void promise21BestOrderOfLikeOnes() {
