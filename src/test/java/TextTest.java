@@ -59,6 +59,11 @@ public final class TextTest {
         Checks.dueIllegalState("it is not undoable", station, station::undo);
         Checks.write(station, "r;");
         Checks.due("nothing of the old text is left", station.carryOut(), 1);
+        Checks.write(station, "d12;r;");
+        Checks.write(station, "d1");
+        Checks.due("nothing of the old text is read", station.carryOut(), -12);
+        Checks.write(station, "");
+        Checks.due("no order of the old text is left", station.carryOut(), 0);
     }
 
     private static void promise25SyntaxOfOrders() {
