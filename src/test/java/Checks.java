@@ -7,8 +7,18 @@ final class Checks {
 
     private static int made = 0;
     private static int wrong = 0;
+    private static String subject = "";
 
     private Checks() {
+    }
+
+    /** What the answers that follow are about; it is told with each one that is wrong. */
+    static void speakOf(String newSubject) {
+        subject = newSubject;
+    }
+
+    static int made() {
+        return made;
     }
 
     static void due(String told, long got, long want) {
@@ -65,7 +75,7 @@ final class Checks {
     }
 
     // The digest holds all that can be asked for, so that it shows that a call that throws changes nothing.
-    private static void dueThrown(String told, AirStation station, Call call, Class<?> want) {
+    static void dueThrown(String told, AirStation station, Call call, Class<?> want) {
         long before = station.digest();
         dueText(told, answerOf(call), want.getSimpleName());
         due(told + ": the digest behind the exception", station.digest(), before);
@@ -90,7 +100,7 @@ final class Checks {
     static void tell(String what) {
         wrong++;
         if (wrong <= 50) {
-            System.out.println(what);
+            System.out.println(subject + what);
         }
     }
 
