@@ -10,7 +10,9 @@ import java.util.Map;
 final class Edges {
     // What a sentence that names no boundary case begins with.
     private static final List<String> NO_EDGE = List.of("Air is counted in", "Receiver.", "Compressors.", "Stages.",
-            "When a minute passes,", "Leak tests.", "Text.", "Undo.", "Exceptions.", "Ahead of the calls");
+            "When a minute passes,", "Leak tests.", "Text.", "Undo.", "Exceptions.", "Ahead of the calls",
+            "Returns that number.", "Returns that value.", "Returns that amount.", "Returns its value.",
+            "Returns the compressor.");
 
     private final Map<String, List<String>> tested = new LinkedHashMap<>();
     private String heading = "";
@@ -68,7 +70,8 @@ final class Edges {
                 place = line.substring(3).replaceFirst("^(Promise [0-9]+):.*", "$1");
             } else if (!line.isBlank()) {
                 String plain = line.replaceFirst("^([0-9]\\. |- )", "");
-                all.computeIfAbsent(place, none -> new ArrayList<>()).addAll(List.of(plain.split("(?<=\\.\\)?) (?=[A-Z(\"])")));
+                String[] sentences = plain.split("(?<=\\.\\)?) (?=[A-Z(\"])");
+                all.computeIfAbsent(place, none -> new ArrayList<>()).addAll(List.of(sentences));
             }
         }
         return all;

@@ -172,11 +172,11 @@ final class QuestionEdges {
 
     private static void runCanServe(Edges edges) {
         edges.under("Promise 19");
-        edges.of("Tells the greatest demand that the compressors that are not tripped could serve, all loaded, with the "
-                + "pressure staying at a value.", QuestionEdges::serversOfEachState);
+        edges.of("Tells the greatest demand that the compressors that are not tripped could serve, all loaded, with "
+                + "the pressure staying at a value.", QuestionEdges::serversOfEachState);
         edges.of("`pressure`: 0 to 16000", QuestionEdges::canServeEnds);
-        edges.of("Returns the sum of their capacities less what the leak takes at this pressure; 0 if this is negative.",
-                QuestionEdges::canServeNothing);
+        edges.of("Returns the sum of their capacities less what the leak takes at this pressure; 0 if this is "
+                + "negative.", QuestionEdges::canServeNothing);
         edges.of("Throws `IllegalArgumentException` if pressure is out of range", QuestionEdges::canServeOutOfRange);
     }
 
@@ -307,7 +307,8 @@ final class QuestionEdges {
                 LEAST_INT, GREATEST_INT);
         Edges.dueRefused("energyWith(200, minutes)", station, minutes -> station.energyWith(200, minutes), ARGUMENT, 0,
                 601, -1, LEAST_INT, GREATEST_INT);
-        Edges.dueRefused("energyWith(9, minutes)", station, minutes -> station.energyWith(9, minutes), ARGUMENT, 0, 601);
+        Edges.dueRefused("energyWith(9, minutes)", station, minutes -> station.energyWith(9, minutes), ARGUMENT, 0,
+                601);
     }
 
     // ---- bestOrder
@@ -460,8 +461,8 @@ final class QuestionEdges {
 
     private static void bestOrderOutOfRange() {
         AirStation station = Edges.still(10, 20);
-        Edges.dueRefused("bestOrder(minutes, 0)", station, minutes -> station.bestOrder(minutes, 0), ARGUMENT, 0, 31, -1,
-                LEAST_INT, GREATEST_INT);
+        Edges.dueRefused("bestOrder(minutes, 0)", station, minutes -> station.bestOrder(minutes, 0), ARGUMENT, 0, 31,
+                -1, LEAST_INT, GREATEST_INT);
         Edges.dueRefused("bestOrder(minutes, 2)", station, minutes -> station.bestOrder(minutes, 2), ARGUMENT, 0, 31);
         Checks.due("bestOrder(1, 1)", station.bestOrder(1, 1), 1);
         Checks.due("bestOrder(30, 1)", station.bestOrder(30, 1) + station.bestOrder(30, 0), 1);
@@ -483,8 +484,8 @@ final class QuestionEdges {
     private static void runLoadedShare(Edges edges) {
         edges.under("Promise 22");
         edges.of("Returns the share of the energy that went into loaded minutes.", QuestionEdges::shareOfBoth);
-        edges.of("Returns 10 * (the sum of capacity * loaded minutes over all compressors), converted to double, divided "
-                + "by the energy, converted to double", QuestionEdges::shareBeyondInt);
+        edges.of("Returns 10 * (the sum of capacity * loaded minutes over all compressors), converted to double, "
+                + "divided by the energy, converted to double", QuestionEdges::shareBeyondInt);
         edges.of("0.0 if this is 0.", QuestionEdges::shareOfNoEnergy);
     }
 

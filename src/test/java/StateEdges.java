@@ -31,9 +31,14 @@ final class StateEdges {
         edges.of("Returns the number of saved states that remain.", StateEdges::remaining);
         edges.of("Throws `IllegalStateException` if there is no saved state", StateEdges::undoOfNone);
         edges.under("Promise 27");
-        edges.of("Returns a hash of the state.", StateEdges::digestOfNew);
+        edges.of("Returns a hash of the state.", StateEdges::digestOfLikeStates);
         edges.of("Start with h = 3631", StateEdges::digestOfNew);
-        edges.of("for each of the following values v, set h = 31 * h + v: the length of the text", StateEdges::digestParts);
+        edges.of("for each of the following values v, set h = 31 * h + v: the length of the text",
+                StateEdges::digestOfTexts);
+        edges.of("value() for 0 to 11; setting() for 0 to 7; booked() for 0 to 5", StateEdges::digestOfValues);
+        edges.of("for each compressor the values of compressor() for what = 0 to 9, and next()",
+                StateEdges::digestOfCompressors);
+        edges.of("for each result that is kept, from the latest one, result()", StateEdges::digestOfResults);
         edges.of("the number of saved states.", StateEdges::digestCountsSavedStates);
         edges.of("Returns the hash, with the overflow of long arithmetic ignored.", StateEdges::digestOverflows);
     }
@@ -345,24 +350,79 @@ final class StateEdges {
         Checks.due("digest() once more", station.digest(), hashOf(station, 0, 0));
     }
 
-    private static void digestParts() {
-        for (int length = 0; length <= 100; length += 50) {
+    private static void digestOfLikeStates() {
+        AirStation station = new AirStation();
+        AirStation other = new AirStation();
+        Checks.due("new ones", station.digest(), other.digest());
+        station.append('r');
+        other.append('d');
+        Checks.due("texts that are as long", station.digest(), other.digest());
+        station.rotate();
+        Checks.due("another state", station.digest() == other.digest() ? 1 : 0, 0);
+        other.rotate();
+        Checks.due("the same way", station.digest(), other.digest());
+        station.undo();
+        station.set(6, 100);
+        other.undo();
+        other.set(7, 480);
+        Checks.due("another way", station.digest(), other.digest());
+    }
+
+    private static void digestOfTexts() {
+        int[] lengths = {0, 1, 50, 99, 100};
+        for (int length : lengths) {
             AirStation station = new AirStation();
             Checks.write(station, "r".repeat(length));
             Checks.due("digest() with a text of " + length, station.digest(), hashOf(station, length, 0));
+            station.clearText();
+            Checks.due("digest() with an emptied one", station.digest(), new AirStation().digest());
         }
-        AirStation station = Edges.still(10, 20, 30, 40, 50);
-        Checks.due("digest() of five", station.digest(), hashOf(station, 0, 4));
-        for (int test = 1; test <= 8; test++) {
-            station.set(5, test);
-            station.leakTest(test);
-            Checks.due("digest() with tests", station.digest(), hashOf(station, 0, 4));
-        }
-        station.trip(0);
-        station.pass(100);
-        station.clear(0);
+    }
+
+    private static void digestOfValues() {
+        AirStation station = new AirStation();
+        station.setVolume(999);
         station.rotate();
-        Checks.due("digest() of a busy one", station.digest(), hashOf(station, 0, 4));
+        station.pass(7);
+        Checks.due("digest()", station.digest(), hashOf(station, 0, 3));
+        int[] values = {7000, 150, 9000, 6, 4, 3, 3000, 240};
+        for (int what = 0; what < 8; what++) {
+            station.set(what, values[what]);
+            Checks.due("digest() behind set(" + what + ", ..)", station.digest(), hashOf(station, 0, 4));
+        }
+        station.pass(7);
+        Checks.due("an unmet demand", station.booked(3) > 0 ? 1 : 0, 1);
+        Checks.due("digest() with it", station.digest(), hashOf(station, 0, 4));
+    }
+
+    private static void digestOfCompressors() {
+        for (int count = 0; count <= 5; count++) {
+            AirStation station = new AirStation();
+            for (int number = 0; number < count; number++) {
+                station.addCompressor(10 + number);
+            }
+            Checks.due("digest() of " + count, station.digest(), hashOf(station, 0, Math.min(count, 4)));
+        }
+        AirStation station = busy();
+        station.addCompressor(500);
+        station.clear(1);
+        station.pass(1);
+        Checks.due("digest() of a busy one", station.digest(), hashOf(station, 6, 4));
+        AirStation unloaded = Edges.unloadedOne();
+        unloaded.pass(2);
+        Checks.due("digest() with a timer", unloaded.digest(), hashOf(unloaded, 0, 4));
+        unloaded.pass(3);
+        Checks.due("digest() with a rest", unloaded.digest(), hashOf(unloaded, 0, 4));
+    }
+
+    private static void digestOfResults() {
+        AirStation station = new AirStation();
+        for (int test = 1; test <= 8; test++) {
+            Checks.due("a leak test", station.leakTest(test) > 0 ? 1 : 0, 1);
+            Checks.due("digest() with " + test, station.digest(), hashOf(station, 0, Math.min(test, 4)));
+        }
+        station.undo();
+        Checks.due("digest() undone", station.digest(), hashOf(station, 0, 3));
     }
 
     private static void digestCountsSavedStates() {
@@ -381,8 +441,8 @@ final class StateEdges {
     private static void digestOverflows() {
         // 3631 * 31 ^ 28 is beyond a long many times: what is left of it is taken modulo 2 ^ 64
         BigInteger hash = BigInteger.valueOf(3631);
-        long[] values = {0, 1000, 6000, 6000, 0, 0, 0, 0, 0, 0, 0, 0, 0, 6500, 200, 10000, 5, 3, 2, 100, 480, 0, 0, 0, 0,
-            0, 0, 0};
+        long[] values = {0, 1000, 6000, 6000, 0, 0, 0, 0, 0, 0, 0, 0, 0, 6500, 200, 10000, 5, 3, 2, 100, 480,
+            0, 0, 0, 0, 0, 0, 0};
         for (long value : values) {
             hash = hash.multiply(BigInteger.valueOf(31)).add(BigInteger.valueOf(value));
         }

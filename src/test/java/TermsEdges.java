@@ -294,7 +294,8 @@ final class TermsEdges {
             AirStation station = Edges.still(10, 20, 30, 40, 50);
             station.set(1, step);
             for (int stage = 1; stage < 5; stage++) {
-                Checks.due("loading with " + step, station.compressor(stage - 1, 8) - station.compressor(stage, 8), step);
+                Checks.due("loading with " + step, station.compressor(stage - 1, 8) - station.compressor(stage, 8),
+                        step);
                 Checks.due("unloading with " + step, station.compressor(stage - 1, 9) - station.compressor(stage, 9),
                         step);
             }
@@ -535,7 +536,8 @@ final class TermsEdges {
                 + "each unloaded one increase by 1.", TermsEdges::minutesOfEachState);
         edges.of("The energy increases by 10 * capacity for each loaded one, and by 3 * capacity for each unloaded "
                 + "one.", TermsEdges::energyOfEachState);
-        edges.of("The leak takes the pressure at the beginning of the minute * leak / 1000", TermsEdges::leakRoundsDown);
+        edges.of("The leak takes the pressure at the beginning of the minute * leak / 1000",
+                TermsEdges::leakRoundsDown);
         edges.of("but not more than the air that is there (with what was delivered).", TermsEdges::leakOfLittleAir);
         edges.of("Then the demand takes its amount, but not more than what is left; what it lacks is unmet.",
                 TermsEdges::demandTakesWhatIsLeft);

@@ -53,7 +53,8 @@ final class TextEdges {
         edges.of("The text has at most 100 bytes.", TextEdges::atMost100Bytes);
         edges.of("It is a sequence of orders, each terminated by a semicolon", TextEdges::eachWithItsSemicolon);
         edges.of("\"d\" and a demand of one to four digits, 0 to 3000", TextEdges::demandOrders);
-        edges.of("\"m\" and a number of minutes of one to three digits, 1 to 600, to let pass", TextEdges::minuteOrders);
+        edges.of("\"m\" and a number of minutes of one to three digits, 1 to 600, to let pass",
+                TextEdges::minuteOrders);
         edges.of("\"t\" or \"c\" and a compressor digit 0 to 4, to trip or to clear it", TextEdges::compressorOrders);
         edges.of("\"r\", to rotate now.", TextEdges::rotateOrders);
         edges.of("There are no spaces", TextEdges::noSpaces);

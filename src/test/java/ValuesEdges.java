@@ -30,7 +30,6 @@ final class ValuesEdges {
         edges.of("7 its starts so far: how often it became loaded from being off", ValuesEdges::startsFromOff);
         edges.of("8 its limit for loading", ValuesEdges::lowestLimits);
         edges.of("9 its limit for unloading", ValuesEdges::highestLimits);
-        edges.of("Returns that value.", ValuesEdges::aboutEachOne);
         edges.of("Throws `IndexOutOfBoundsException` if there is no such compressor", ValuesEdges::aboutNone);
         edges.of("Throws `IllegalArgumentException` if what is out of range", ValuesEdges::whatOutOfRange);
     }
@@ -173,7 +172,6 @@ final class ValuesEdges {
         edges.under("Promise 11");
         edges.of("Returns the compressor of a stage.", ValuesEdges::stagesRotated);
         edges.of("`stage`: from 0", ValuesEdges::stageEnds);
-        edges.of("Returns the compressor.", ValuesEdges::stagesRotated);
         edges.of("Throws `IndexOutOfBoundsException` if there are not so many stages", ValuesEdges::tooManyStages);
     }
 
@@ -207,16 +205,25 @@ final class ValuesEdges {
 
     private static void runValue(Edges edges) {
         edges.under("Promise 12");
-        edges.of("Returns a number.", ValuesEdges::valuesOfNone);
+        edges.of("Returns a number.", ValuesEdges::firstAndLastValue);
         edges.of("`what`: 0 the volume, 1 the air, 2 the pressure, 3 the compressors", ValuesEdges::valuesOfNone);
-        edges.of("4 those that are loaded, 5 those that are unloaded, 6 those that are tripped", ValuesEdges::countsOfAll);
+        edges.of("4 those that are loaded, 5 those that are unloaded, 6 those that are tripped",
+                ValuesEdges::countsOfAll);
         edges.of("7 the time", ValuesEdges::latestTime);
         edges.of("8 the minutes since the latest rotation", ValuesEdges::latestRotation);
         edges.of("9 the rotations so far (also by calls)", ValuesEdges::rotationsOfBothKinds);
         edges.of("10 the sum of the capacities of those that are loaded", ValuesEdges::loadedCapacity);
         edges.of("11 the leak tests whose results are kept", ValuesEdges::keptTests);
-        edges.of("Returns that number.", ValuesEdges::countsOfAll);
         edges.of("Throws `IllegalArgumentException` if what is out of range", ValuesEdges::valueOutOfRange);
+    }
+
+    private static void firstAndLastValue() {
+        AirStation station = new AirStation();
+        station.setVolume(600);
+        station.leakTest(1);
+        Checks.due("value(0)", station.value(0), 600);
+        Checks.due("value(11)", station.value(11), 1);
+        Edges.dueRefused("value", station, station::value, ARGUMENT, -1, 12);
     }
 
     private static void valuesOfNone() {
@@ -328,13 +335,11 @@ final class ValuesEdges {
         edges.under("Promise 13");
         edges.of("Returns a setting.", ValuesEdges::settingsOfNew);
         edges.of("`what`: 0 to 7", ValuesEdges::settingEnds);
-        edges.of("Returns its value.", ValuesEdges::settingsOfNew);
         edges.of("Throws `IllegalArgumentException` if what is out of range", ValuesEdges::settingOutOfRange);
         edges.under("Promise 14");
         edges.of("Returns a booked amount, the sum so far.", ValuesEdges::bookedBeyondInt);
         edges.of("`what`: 0 delivered, 1 taken by the leak, 2 taken by the demand, 3 unmet, 4 blown off, 5 the energy",
                 ValuesEdges::bookedOneByOne);
-        edges.of("Returns that amount.", ValuesEdges::bookedOneByOne);
         edges.of("Throws `IllegalArgumentException` if what is out of range", ValuesEdges::bookedOutOfRange);
     }
 
@@ -410,10 +415,23 @@ final class ValuesEdges {
 
     private static void runResult(Edges edges) {
         edges.under("Promise 15");
-        edges.of("Returns the result of a leak test.", ValuesEdges::resultsFromTheLatest);
+        edges.of("Returns the result of a leak test.", ValuesEdges::resultsOfTests);
         edges.of("`index`: 0 for the latest one, and so on", ValuesEdges::resultsFromTheLatest);
         edges.of("Returns the result.", ValuesEdges::resultOfNothing);
         edges.of("Throws `IndexOutOfBoundsException` if not so many are kept", ValuesEdges::tooFewResults);
+    }
+
+    private static void resultsOfTests() {
+        AirStation station = new AirStation();
+        int[] minutes = {1, 2, 59, 60};
+        for (int some : minutes) {
+            long before = station.booked(1);
+            int result = station.leakTest(some);
+            Checks.due("what the leak took in " + some, station.booked(1) - before, result);
+            Checks.due("result(0) of " + some, station.result(0), result);
+            station.pass(1);
+            Checks.due("result(0) a minute later", station.result(0), result);
+        }
     }
 
     private static void resultsFromTheLatest() {
