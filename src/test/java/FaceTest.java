@@ -31,7 +31,11 @@ public final class FaceTest {
     private static final List<String> RULED_OUT = List.of("->", "::", "Exact\\(", "\\bfinally\\b", "\\bcatch\\b",
             "\\bsynchronized\\b", "\\bassert\\b", "\\bpackage\\b", "\\bimport\\b", "\" \\+", "\\+ \"", "\\brecord\\b",
             "\\bstatic \\{", "@", "\\bprotected\\b", "NullPointerException", "ClassCastException",
-            "ArrayIndexOutOfBoundsException", "NegativeArraySizeException");
+            "ArrayIndexOutOfBoundsException", "NegativeArraySizeException", "\\.equals\\(", "\\.hashCode\\(",
+            "\\.toString\\(", "\\[\\]\\[\\]", "\\btry\\b");
+    private static final Set<String> LIBRARY = Set.of("Math.max", "Math.min", "System.arraycopy");
+    private static final Set<String> MADE = Set.of("int", "long", "State", "Compressor", "History", "Program",
+            "IllegalArgumentException", "IllegalStateException", "IndexOutOfBoundsException");
 
     public static void main(String[] args) throws IOException {
         methodsAreThoseOfTheFace();
@@ -132,7 +136,30 @@ public final class FaceTest {
                     "new (IllegalArgument|IllegalState|IndexOutOfBounds)Exception\\(\"[a-z ]*\"\\)");
             Checks.due("throw " + thrown.group(1), isWritten ? 1 : 0, 1);
         }
+        libraryIsWhatIsListed(code);
+        signsArePlain(text);
         methodsAreShort(code);
+    }
+
+    // Names with a capital ahead of a point: the program calls no static function but these, and makes nothing else.
+    private static void libraryIsWhatIsListed(String code) {
+        Matcher called = Pattern.compile("\\b([A-Z][A-Za-z]*\\.[A-Za-z]+)").matcher(code);
+        while (called.find()) {
+            Checks.due(called.group(1) + " is listed", LIBRARY.contains(called.group(1)) ? 1 : 0, 1);
+        }
+        Matcher madeOf = Pattern.compile("\\bnew ([A-Za-z]+)").matcher(code);
+        while (madeOf.find()) {
+            Checks.due("new " + madeOf.group(1) + " is listed", MADE.contains(madeOf.group(1)) ? 1 : 0, 1);
+        }
+    }
+
+    private static void signsArePlain(String text) {
+        for (int index = 0; index < text.length(); index++) {
+            char sign = text.charAt(index);
+            if (sign != '\n' && (sign < ' ' || sign > '~')) {
+                Checks.tell("the sign " + (int) sign + " stands at " + index);
+            }
+        }
     }
 
     private static void methodsAreShort(String code) {
